@@ -227,13 +227,14 @@ public final class FaultGraph {
 
     private int sifted(int part) {
         trial.copyFrom(now.plant);
+        long table = trial.topTable();
         int best = 0;
         int fewest = Graph.MOST_NODES + 1;
         for (int place = 0; place < trial.parts; place++) {
             trial.putAt(part, place);
-            graph.draw(trial);
-            if (graph.size < fewest) {
-                fewest = graph.size;
+            int many = graph.draw(trial, table);
+            if (many < fewest) {
+                fewest = many;
                 best = place;
             }
         }
@@ -248,7 +249,7 @@ public final class FaultGraph {
         if (now.plant.gates == 0) {
             return STATE;
         }
-        graph.draw(now.plant);
+        graph.draw(now.plant, now.plant.topTable());
         return graph.ofNode(node, what);
     }
 
@@ -273,25 +274,19 @@ public final class FaultGraph {
 
     private int toldOfTop(int what) {
         Plant plant = now.plant;
+        long table = plant.topTable();
         switch (what) {
             case 4:
-                return nodesOf(plant);
+                return graph.draw(plant, table);
             case 5:
-                sets.listCuts(plant);
-                return sets.size;
+                return sets.listCuts(table, plant.parts);
             case 6:
-                sets.listPaths(plant);
-                return sets.size;
+                return sets.listPaths(table, plant.parts);
             case 7:
-                return chances.mostOf(plant);
+                return chances.mostOf(plant, table);
             default:
-                return sameness(plant.topTable());
+                return sameness(table);
         }
-    }
-
-    private int nodesOf(Plant plant) {
-        graph.draw(plant);
-        return graph.size;
     }
 
     private static int sameness(long table) {
@@ -305,7 +300,7 @@ public final class FaultGraph {
         if (now.plant.gates == 0) {
             return STATE;
         }
-        sets.listCuts(now.plant);
+        listCutsNow();
         return sets.bitsOf(k);
     }
 
@@ -313,8 +308,12 @@ public final class FaultGraph {
         if (now.plant.gates == 0) {
             return STATE;
         }
-        sets.listPaths(now.plant);
+        sets.listPaths(now.plant.topTable(), now.plant.parts);
         return sets.bitsOf(k);
+    }
+
+    private int listCutsNow() {
+        return sets.listCuts(now.plant.topTable(), now.plant.parts);
     }
 
     // ---- odds
@@ -324,7 +323,7 @@ public final class FaultGraph {
         if (!isLine(part) || plant.gates == 0) {
             return NO;
         }
-        long above = chances.above(plant, Chances.AS_THEY_ARE, 0);
+        long above = chances.above(plant, plant.topTable(), Chances.AS_THEY_ARE, 0);
         return lowest(above, chances.below(plant), part);
     }
 
@@ -333,7 +332,8 @@ public final class FaultGraph {
         if (!plant.hasCause(cause) || !isLine(part) || plant.gates == 0) {
             return NO;
         }
-        long above = chances.above(plant, MOST_PARTS + cause, isSo ? WHOLE : 0);
+        int odds = isSo ? WHOLE : 0;
+        long above = chances.above(plant, plant.topTable(), MOST_PARTS + cause, odds);
         return lowest(above, chances.below(plant), part);
     }
 
@@ -342,7 +342,8 @@ public final class FaultGraph {
         if (!plant.hasPart(part) || !isLine(line) || plant.gates == 0) {
             return NO;
         }
-        return lowest(chances.weightAbove(plant, part), chances.below(plant), line);
+        long above = chances.weightAbove(plant, plant.topTable(), part);
+        return lowest(above, chances.below(plant), line);
     }
 
     // ---- seen, means
@@ -389,11 +390,11 @@ public final class FaultGraph {
         if (!isLine(line) || now.plant.gates == 0) {
             return NO;
         }
-        sets.listCuts(now.plant);
-        if (sets.size == 0) {
+        int many = listCutsNow();
+        if (many == 0) {
             return NO;
         }
-        return lowest(sets.partsTogether(), sets.size, line);
+        return lowest(sets.partsTogether(), many, line);
     }
 
     // ---- events, books
@@ -421,16 +422,16 @@ public final class FaultGraph {
         for (int i = 0; i < now.events.size; i++) {
             trial.undergo(now.events.firsts[i], now.events.seconds[i]);
         }
+        long table = trial.topTable();
         switch (what) {
             case 0:
-                sets.listCuts(trial);
-                return sets.size;
+                return sets.listCuts(table, trial.parts);
             case 1:
-                return nodesOf(trial);
+                return graph.draw(trial, table);
             case 2:
-                return says(trial.topTable(), 0) ? 1 : 0;
+                return says(table, 0) ? 1 : 0;
             default:
-                return chances.mostOf(trial);
+                return chances.mostOf(trial, table);
         }
     }
 
@@ -448,7 +449,7 @@ public final class FaultGraph {
         if (now.plant.gates == 0) {
             return STATE;
         }
-        sets.listCuts(now.plant);
+        listCutsNow();
         for (int i = 0; i < now.bookRows.size; i++) {
             if (!sets.has(now.bookRows.firsts[i])) {
                 return i;
@@ -470,7 +471,7 @@ public final class FaultGraph {
         if (row.sort != Tape.EMPTY && row.sort != Tape.BYTES) {
             return CAST;
         }
-        sets.listCuts(now.plant);
+        listCutsNow();
         for (int k = 0; k < sets.size; k++) {
             // A tape that holds nothing has the length 0, so it ends at once as a row would.
             if (i < 0 || i >= row.length - k) {
@@ -893,10 +894,11 @@ public final class FaultGraph {
         }
 
         private long inputTable(int input) {
-            if (input >= GATE_MARK) {
-                return hasGate(input - GATE_MARK) ? gateTables[input - GATE_MARK] : SAYS_NEVER;
+            int gate = input - GATE_MARK;
+            if (gate >= 0) {
+                return gate < gates ? gateTables[gate] : SAYS_NEVER;
             }
-            return hasPart(input) ? PART_TABLES[input] : SAYS_NEVER;
+            return input >= 0 && input < parts ? PART_TABLES[input] : SAYS_NEVER;
         }
 
         static long ifWorks(long table, int part) {
@@ -930,15 +932,17 @@ public final class FaultGraph {
         // Of six parts no order needs more than 1 + 2 + 4 + 8 + 12 + 2 nodes.
         static final int MOST_NODES = 64;
 
-        int size;
+        private int size;
         private final long[] tables = new long[MOST_NODES];
         private final int[] nodeParts = new int[MOST_NODES];
         private final int[] works = new int[MOST_NODES];
         private final int[] failing = new int[MOST_NODES];
 
-        void draw(Plant plant) {
+        /** Answers how many nodes there are. */
+        int draw(Plant plant, long table) {
             size = 0;
-            meet(plant, plant.topTable(), 0);
+            meet(plant, table, 0);
+            return size;
         }
 
         /** The table hangs on no part ahead of the place; each level goes to a later place. */
@@ -1008,12 +1012,13 @@ public final class FaultGraph {
         final int[] bits = new int[MOST_SETS];
         int size;
 
-        void listCuts(Plant plant) {
-            list(plant.topTable(), plant.parts);
+        /** Answers how many there are. */
+        int listCuts(long table, int parts) {
+            return list(table, parts);
         }
 
-        void listPaths(Plant plant) {
-            list(keepsUp(plant.topTable()), plant.parts);
+        int listPaths(long table, int parts) {
+            return list(keepsUp(table), parts);
         }
 
         /** The table of the sets by which the top doesn't fail, if all others do. */
@@ -1027,7 +1032,7 @@ public final class FaultGraph {
             return up;
         }
 
-        private void list(long table, int parts) {
+        private int list(long table, int parts) {
             size = 0;
             for (int many = 0; many <= parts; many++) {
                 for (int set = 0; set < 1 << parts; set++) {
@@ -1036,6 +1041,7 @@ public final class FaultGraph {
                     }
                 }
             }
+            return size;
         }
 
         private void keep(int set) {
@@ -1097,7 +1103,7 @@ public final class FaultGraph {
         }
 
         /** One source (a part, or MOST_PARTS and a cause) has other odds, if it is told. */
-        long above(Plant plant, int source, int otherOdds) {
+        long above(Plant plant, long table, int source, int otherOdds) {
             int many = 1 << plant.parts;
             for (int set = 0; set < many; set++) {
                 likely[set] = 0L;
@@ -1110,7 +1116,7 @@ public final class FaultGraph {
                 boolean isOther = MOST_PARTS + c == source;
                 spread(plant.causeBits[c], isOther ? otherOdds : plant.causeOdds[c], many);
             }
-            return sumOver(plant.topTable(), many);
+            return sumOver(table, many);
         }
 
         /** Greater sets go first: what they receive has had its turn by then. */
@@ -1135,15 +1141,15 @@ public final class FaultGraph {
             return sum;
         }
 
-        long weightAbove(Plant plant, int part) {
-            return above(plant, part, WHOLE) - above(plant, part, 0);
+        long weightAbove(Plant plant, long table, int part) {
+            return above(plant, table, part, WHOLE) - above(plant, table, part, 0);
         }
 
-        int mostOf(Plant plant) {
+        int mostOf(Plant plant, long table) {
             int most = NOT_ANY;
             long greatest = -1L;
             for (int part = 0; part < plant.parts; part++) {
-                long weight = weightAbove(plant, part);
+                long weight = weightAbove(plant, table, part);
                 if (weight > greatest) {
                     greatest = weight;
                     most = part;

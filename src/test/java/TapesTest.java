@@ -8,6 +8,7 @@ public final class TapesTest {
         judge();
         judgeWithoutCuts();
         imageOfPlant();
+        imageOfCauses();
         imageOfRows();
         count();
         tape();
@@ -120,6 +121,24 @@ public final class TapesTest {
         CHECK.due("33 twice", x.undo(), 3);
     }
 
+    /** What came behind the image goes, and what comes in its stead is not taken for it. */
+    private static void imageOfCauses() {
+        FaultGraph x = plant();
+        x.image();
+        x.cause(5, 5);
+        x.undo();
+        CHECK.due("33 no causes", x.told(2), 0);
+        CHECK.due("33 the first again", x.cause(6, 6), 0);
+        x.image();
+        x.undo();
+        CHECK.due("33 its odds", x.of(2, 0, 0), 6);
+        CHECK.due("33 its bits", x.of(2, 0, 1), 6);
+        x.image();
+        x.undo();
+        x.undo();
+        CHECK.due("33 its bits stay", x.of(2, 0, 1), 6);
+    }
+
     private static void imageOfRows() {
         FaultGraph x = plant();
         x.see(1, true);
@@ -135,6 +154,8 @@ public final class TapesTest {
         x.see(1, false);
         x.event(-1, 0);
         x.book(-1);
+        x.book(3);
+        x.book(3);
         x.feed('a');
         x.item(0, 0, 7);
         x.undo();

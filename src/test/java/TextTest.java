@@ -139,5 +139,6 @@ public final class TextTest {
         CHECK.due("12 five inputs", readNew("p1;a;j0p0;j0p0;j0p0;j0p0;j0p0"), 6);
         CHECK.due("12 four causes", readNew("p1;c1p0;c1p0;c1p0;c1p0"), 4);
         CHECK.due("12 none done", readNew("j0p0"), 0);
+        CHECK.due("12 odds 0", readNew("p0;c0p0;c000p0"), 3);
     }
 }
