@@ -834,21 +834,12 @@ public final class FaultGraph {
             return was;
         }
 
-        /** What an event does; its part or gate is there. */
+        /** What an event does. It was told by another call, so its part or gate is looked at again. */
         void undergo(int what, int n) {
-            switch (what) {
-                case 0:
-                    partOdds[n] = 0;
-                    break;
-                case 1:
-                    partOdds[n] = WHOLE;
-                    break;
-                case 2:
-                    kinds[n] = ALL;
-                    break;
-                default:
-                    kinds[n] = ANY;
-                    break;
+            if (what <= 1 && hasPart(n)) {
+                partOdds[n] = what == 0 ? 0 : WHOLE;
+            } else if (what >= 2 && hasGate(n)) {
+                kinds[n] = what == 2 ? ALL : ANY;
             }
         }
 
@@ -898,15 +889,22 @@ public final class FaultGraph {
             if (gate >= 0) {
                 return gate < gates ? gateTables[gate] : SAYS_NEVER;
             }
-            return input >= 0 && input < parts ? PART_TABLES[input] : SAYS_NEVER;
+            return input >= 0 && input < PART_TABLES.length ? PART_TABLES[input] : SAYS_NEVER;
         }
 
+        /** Nothing hangs on a part that isn't there: the function stays as it is. */
         static long ifWorks(long table, int part) {
+            if (part < 0 || part >= PART_TABLES.length) {
+                return table;
+            }
             long works = table & ~PART_TABLES[part];
             return works | works << (1 << part);
         }
 
         static long ifFails(long table, int part) {
+            if (part < 0 || part >= PART_TABLES.length) {
+                return table;
+            }
             long failing = table & PART_TABLES[part];
             return failing | failing >>> (1 << part);
         }
