@@ -127,7 +127,7 @@ final class Plants {
         }
     }
 
-    /** Nothing more can come; what came last is not in the image. About 220 calls. */
+    /** Nothing more can come; what came last is not in the image. 192 calls make it. */
     private static FaultGraph full() {
         FaultGraph x = new FaultGraph();
         int[] odds = {10, 20, 0, 100, 50};
